@@ -1,65 +1,11 @@
 /** One method for each promise: ordinary calls, the edges that the document names, wrong calls. */
-public final class PromiseTest {
-    static final int UNKNOWN = -1, BAD = -2, LATE = -3, FULL = -4, NIL = -8, NONE = -9;
-    /** 0, 1, 2, ..; K1; 1, 2, 3, .. */
-    static final String COUNTER = "S3F02K1+01";
-    /** Two inputs, the one sampled by the other in two ways and merged again. */
-    static final String MERGED = "S5I0I1W10N10M023";
-    /** Clocks on clocks, three deep. */
-    static final String DEEP = "S4I0W00W11N22";
-    static final String KNOTTED = "S2+10+01";
-    static final String CLASHING = "S3I0W00+01";
-    static final String RAW = "S3I0P0P1";
-
+public final class PromiseTest extends Check {
     // What seed 0 draws, reckoned apart from the class: upper 31 bits 167951807, then 218396424.
     static final int FIRST_A = 7, FIRST_B = 7, SECOND_A = 4, SECOND_B = 6;
     static final long SECOND_SEED = 1876011003808476466L;
 
-    private static int wrong = 0;
-    private static String promise = "";
-
-    static void due(String call, long got, long want) {
-        if (got != want) {
-            wrong++;
-            System.out.println(promise + ": " + call + " answered " + got + ", due is " + want);
-        }
-    }
-
-    static ClockedFlows written(String text) {
-        ClockedFlows x = new ClockedFlows();
-        rewrite(x, text);
-        return x;
-    }
-
-    static void rewrite(ClockedFlows x, String text) {
-        x.wipe();
-        for (char letter : text.toCharArray()) {
-            x.write(letter);
-        }
-    }
-
-    static ClockedFlows of(String text) {
-        ClockedFlows x = written(text);
-        x.program();
-        return x;
-    }
-
-    static ClockedFlows ticked(String text, int... inputs) {
-        ClockedFlows x = of(text);
-        for (int i = 0; i + 1 < inputs.length; i += 2) {
-            x.tick(inputs[i], inputs[i + 1]);
-        }
-        return x;
-    }
-
-    static void values(String what, ClockedFlows x, int... want) {
-        for (int s = 0; s < want.length; s++) {
-            due(what + " stream(" + s + ", 4)", x.stream(s, 4), want[s]);
-        }
-    }
-
     static void newObject() {
-        promise = "1";
+        promise("Promise 1");
         ClockedFlows x = new ClockedFlows();
         int[] want = {0, NONE, 0, NONE, 1, 0, 0, 0, 0, 0};
         for (int what = 0; what < want.length; what++) {
@@ -71,7 +17,7 @@ public final class PromiseTest {
     }
 
     static void write() {
-        promise = "2";
+        promise("Promise 2");
         ClockedFlows x = new ClockedFlows();
         due("-1", x.write(-1), BAD);
         due("256", x.write(256), BAD);
@@ -86,7 +32,7 @@ public final class PromiseTest {
     }
 
     static void wipe() {
-        promise = "3";
+        promise("Promise 3");
         ClockedFlows x = of(COUNTER);
         due("wipe", x.wipe(), 10);
         due("wipe", x.wipe(), 0);
@@ -99,7 +45,7 @@ public final class PromiseTest {
     }
 
     static void fault() {
-        promise = "4";
+        promise("Promise 4");
         fault("", 0);
         fault("s", 0);
         fault("XS1K0", 0);
@@ -139,7 +85,7 @@ public final class PromiseTest {
     }
 
     static void program() {
-        promise = "5";
+        promise("Promise 5");
         ClockedFlows x = written("S1");
         due("half a text", x.program(), LATE);
         due("no stream yet", x.about(0), 0);
@@ -170,7 +116,7 @@ public final class PromiseTest {
     }
 
     static void about() {
-        promise = "6";
+        promise("Promise 6");
         due("-1", new ClockedFlows().about(-1), BAD);
         due("10", new ClockedFlows().about(10), BAD);
         ClockedFlows x = ticked(MERGED, 0, 5, 3, 5);
@@ -205,7 +151,7 @@ public final class PromiseTest {
     }
 
     static void stream() {
-        promise = "7";
+        promise("Promise 7");
         ClockedFlows x = of(DEEP);
         due("stream -1", x.stream(-1, 0), UNKNOWN);
         due("stream 4", x.stream(4, 9), UNKNOWN);
@@ -256,7 +202,7 @@ public final class PromiseTest {
     }
 
     static void figure() {
-        promise = "8";
+        promise("Promise 8");
         ClockedFlows x = of("S5I1K9F73M012P4");
         int[][] want = {{1}, {9}, {7, 3}, {0, 1, 2}, {4}};
         for (int s = 0; s < 5; s++) {
@@ -269,7 +215,7 @@ public final class PromiseTest {
     }
 
     static void clock() {
-        promise = "9";
+        promise("Promise 9");
         ClockedFlows x = of(DEEP);
         due("0 over base", x.clock(3, 0), 1);
         due("1 over base", x.clock(3, 1), 11);
@@ -289,7 +235,7 @@ public final class PromiseTest {
     }
 
     static void tick() {
-        promise = "10";
+        promise("Promise 10");
         ClockedFlows x = of(MERGED);
         due("100", x.tick(100, 0), BAD);
         due("-1", x.tick(0, -1), BAD);
@@ -324,7 +270,7 @@ public final class PromiseTest {
     }
 
     static void afresh() {
-        promise = "11";
+        promise("Promise 11");
         ClockedFlows x = ticked(COUNTER, 0, 0, 0, 0, 0, 0);
         due("was", x.afresh(), 3);
         due("ticks", x.about(5), 0);
@@ -336,7 +282,7 @@ public final class PromiseTest {
     }
 
     static void tell() {
-        promise = "12";
+        promise("Promise 12");
         ClockedFlows x = ticked(COUNTER, 0, 0, 0, 0);
         due("stream -1", x.tell(-1, 99, 0, 0, 0), UNKNOWN);
         due("stream 3", x.tell(3, 1, 0, 0, 0), UNKNOWN);
@@ -366,7 +312,7 @@ public final class PromiseTest {
     }
 
     static void undo() {
-        promise = "13";
+        promise("Promise 13");
         ClockedFlows x = of(COUNTER);
         due("none", x.undo(), LATE);
         for (int i = 0; i < 20; i++) {
@@ -390,7 +336,7 @@ public final class PromiseTest {
     }
 
     static void later() {
-        promise = "14";
+        promise("Promise 14");
         ClockedFlows x = ticked(COUNTER, 0, 0);
         due("1", x.later(2, 1, 0, 0), 2);
         due("40", x.later(2, 40, 99, 99), 41);
@@ -410,7 +356,7 @@ public final class PromiseTest {
     }
 
     static void first() {
-        promise = "15";
+        promise("Promise 15");
         ClockedFlows x = of(COUNTER);
         due("1", x.first(2, 1, 0, 0), 1);
         due("40", x.first(2, 40, 0, 0), 40);
@@ -436,7 +382,7 @@ public final class PromiseTest {
     }
 
     static void round() {
-        promise = "16";
+        promise("Promise 16");
         round("S1I0", 5, 1, 0);
         round("S3F02K1-10", 0, 2, 0);
         round("S2I0F50", 5, 1, 0);
@@ -464,7 +410,7 @@ public final class PromiseTest {
     }
 
     static void judge() {
-        promise = "17";
+        promise("Promise 17");
         ClockedFlows x = of(MERGED);
         due("there", x.judge(3, 103053000332005L), NONE);
         due("not there", x.judge(2, 1030543000L), NONE);
@@ -516,7 +462,7 @@ public final class PromiseTest {
     }
 
     static void see() {
-        promise = "18";
+        promise("Promise 18");
         ClockedFlows x = new ClockedFlows();
         int[][] bad = {{0, 0, 0, 0}, {13, 0, 0, 0}, {1, -1, 0, 0}, {1, 8, 0, 0}, {1, 0, -1, 0}, {1, 0, 100, 0}, {1, 0, 0, -1}, {1, 0, 0, 2}};
         for (int[] b : bad) {
@@ -532,7 +478,7 @@ public final class PromiseTest {
     }
 
     static void unsee() {
-        promise = "19";
+        promise("Promise 19");
         ClockedFlows x = of("S1I0");
         due("none", x.unsee(), 0);
         x.see(1, 0, 5, 1);
@@ -543,7 +489,7 @@ public final class PromiseTest {
     }
 
     static void inputs() {
-        promise = "20";
+        promise("Promise 20");
         ClockedFlows x = of("S4I0I1W10+01");
         due("any", x.inputs(0), 100);
         due("the first of any", x.inputs(1), 0);
@@ -588,7 +534,7 @@ public final class PromiseTest {
     }
 
     static void odds() {
-        promise = "21";
+        promise("Promise 21");
         ClockedFlows x = of("S4I0W00N00I1");
         odds(x, new int[] {1, 1, 1, 5}, 1, 2);
         odds(x, new int[] {1, 1, 2, 3}, 51, 100);
@@ -620,7 +566,7 @@ public final class PromiseTest {
     }
 
     static void seed() {
-        promise = "22";
+        promise("Promise 22");
         ClockedFlows x = new ClockedFlows();
         due("at first", x.seed(Long.MIN_VALUE), 0);
         due("was", x.seed(-1), Long.MIN_VALUE);
@@ -628,7 +574,7 @@ public final class PromiseTest {
     }
 
     static void runs() {
-        promise = "23";
+        promise("Promise 23");
         ClockedFlows x = of("S2I0I1");
         due("one", x.runs(1), 2 + FIRST_A + FIRST_B);
         due("the seed", x.seed(0), 1442695040888963407L);
@@ -651,7 +597,7 @@ public final class PromiseTest {
     }
 
     static void keep() {
-        promise = "24";
+        promise("Promise 24");
         ClockedFlows x = ticked(COUNTER, 0, 0, 0, 0);
         due("-1", x.keep(-1), UNKNOWN);
         due("2", x.keep(2), UNKNOWN);
@@ -665,7 +611,7 @@ public final class PromiseTest {
     }
 
     static void again() {
-        promise = "25";
+        promise("Promise 25");
         ClockedFlows x = ticked(COUNTER, 0, 0, 0, 0);
         due("-1", x.again(-1), UNKNOWN);
         due("2", x.again(2), UNKNOWN);
@@ -714,9 +660,6 @@ public final class PromiseTest {
         runs();
         keep();
         again();
-        System.out.println(wrong == 0 ? "all promises are kept" : wrong + " answers are not as due");
-        if (wrong != 0) {
-            System.exit(1);
-        }
+        end();
     }
 }
