@@ -349,7 +349,7 @@ public final class ClockedFlows {
     // ---- what the calls share
 
     private boolean isStream(int stream) {
-        return stream >= 0 && stream < now.count;
+        return stream >= 0 && stream < now.count && stream < MOST_STREAMS;
     }
 
     private int soundness() {
@@ -597,6 +597,12 @@ public final class ClockedFlows {
             return parts[s * MOST_FIGURES + i];
         }
 
+        /** A figure that is a stream, and so an index of any row of streams. */
+        int streamPart(int s, int i) {
+            int figure = part(s, i);
+            return figure < 0 || figure >= MOST_STREAMS ? 0 : figure;
+        }
+
         int kindOf(int s) {
             return s < 0 || s >= MOST_STREAMS ? ALWAYS : kinds[s];
         }
@@ -771,8 +777,8 @@ public final class ClockedFlows {
         }
 
         private boolean meet(Flow flow, int s) {
-            int one = flow.part(s, 0);
-            int other = flow.part(s, 1);
+            int one = flow.streamPart(s, 0);
+            int other = flow.streamPart(s, 1);
             switch (flow.kindOf(s)) {
                 case INPUT:
                     return bind(s, BASE);
@@ -782,7 +788,7 @@ public final class ClockedFlows {
                     return liken(one, other) && bind(s, 10 * other);
                 case MERGE:
                     return liken(s, one) && bind(other, 10 * one + 1)
-                            && bind(flow.part(s, 2), 10 * one);
+                            && bind(flow.streamPart(s, 2), 10 * one);
                 default:
                     return likenAll(flow, s);
             }
@@ -790,7 +796,7 @@ public final class ClockedFlows {
 
         private boolean likenAll(Flow flow, int s) {
             for (int i = 0; i < MOST_FIGURES; i++) {
-                if (namesStream(flow.kindOf(s), i) && !liken(s, flow.part(s, i))) {
+                if (namesStream(flow.kindOf(s), i) && !liken(s, flow.streamPart(s, i))) {
                     return false;
                 }
             }
@@ -882,7 +888,7 @@ public final class ClockedFlows {
             }
             for (int i = 0; i < MOST_FIGURES; i++) {
                 if (namesStream(kind, i)) {
-                    bits |= 1 << flow.part(s, i);
+                    bits |= 1 << flow.streamPart(s, i);
                 }
             }
             return bits;
@@ -906,7 +912,7 @@ public final class ClockedFlows {
                 case LESS:
                 case CHOICE: return highest(flow, s);
                 case WHEN:
-                case WHEN_NOT: return level[flow.part(s, 0)];
+                case WHEN_NOT: return level[flow.streamPart(s, 0)];
                 default: return 0;
             }
         }
@@ -915,7 +921,7 @@ public final class ClockedFlows {
             int most = 0;
             for (int i = 0; i < MOST_FIGURES; i++) {
                 if (namesStream(flow.kindOf(s), i)) {
-                    most = Math.max(most, level[flow.part(s, i)]);
+                    most = Math.max(most, level[flow.streamPart(s, i)]);
                 }
             }
             return most;
@@ -933,10 +939,10 @@ public final class ClockedFlows {
         private boolean isRaw(Flow flow, int s) {
             switch (flow.kindOf(s)) {
                 case PAST:
-                case START: return level[flow.part(s, 0)] == 1;
+                case START: return level[flow.streamPart(s, 0)] == 1;
                 case FOLLOW:
                 case WHEN:
-                case WHEN_NOT: return level[flow.part(s, 1)] == 1;
+                case WHEN_NOT: return level[flow.streamPart(s, 1)] == 1;
                 case MERGE: return highest(flow, s) == 1;
                 default: return false;
             }

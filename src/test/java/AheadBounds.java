@@ -107,7 +107,7 @@ public final class AheadBounds extends Check {
     }
 
     static void round() {
-        sentence("Promise 16", "the least l (1 .. 40) for which there is a t (0 or more)", () -> {
+        sentence("Promise 16", "the least l (1 .. 40) for which there is a t", () -> {
             rounds("nothing is kept", of("S1I0"), 99, 1, 0);
             rounds("no stream", new ClockedFlows(), 0, 1, 0);
             rounds("always the same", of("S1F90"), 0, 1, 0);

@@ -20,7 +20,7 @@ public final class ChanceBounds extends Check {
             due("the least", x.see(1, 0, 0, 0), 1);
             due("the most", x.see(12, 7, 99, 1), 2);
         });
-        sentence("Promise 18", "SEEN: how many there are; FULL: 6", () -> {
+        sentence("Promise 18", "FULL: 6", () -> {
             ClockedFlows x = new ClockedFlows();
             for (int i = 1; i <= 6; i++) {
                 due("the same once more", x.see(1, 0, 0, 0), i);
@@ -45,19 +45,6 @@ public final class ChanceBounds extends Check {
             }
             x.see(1, 0, 6, 0);
             due("the seventh does not", x.inputs(1), 60);
-        });
-        sentence("Promise 18, SEEN", "SEEN stays", () -> {
-            ClockedFlows x = of("S1I0");
-            x.keep(0);
-            x.see(1, 0, 5, 1);
-            x.tick(0, 0);
-            x.undo();
-            due("behind undo()", x.about(8), 1);
-            x.again(0);
-            due("behind again(0)", x.about(8), 1);
-            x.afresh();
-            x.tell(0, 0, 1, 0, 0);
-            due("behind tell", x.about(8), 1);
         });
         sentence("Promise 19", "Nothing is SEEN: how much there was", () -> {
             ClockedFlows x = of("S1I0");
@@ -110,7 +97,7 @@ public final class ChanceBounds extends Check {
             x.see(2, 0, 8, 1);
             due("not the same", x.inputs(0), 0);
         });
-        sentence("Promise 20, SEEN", "from AFRESH on, at TICK t (1 .. 12)", () -> {
+        sentence("Promise 20, SEEN", "at TICK t (1 .. 12)", () -> {
             ClockedFlows x = ticked(COUNTER, 0, 0, 0, 0, 0, 0);
             for (int t = 1; t <= 12; t++) {
                 x.unsee();
@@ -199,7 +186,7 @@ public final class ChanceBounds extends Check {
     }
 
     static void oddsTicks(String text) {
-        sentence("Promise 21, ODDS", "in each of n TICKS (1 .. 6) to come, by itself", () -> {
+        sentence("Promise 21, ODDS", "in each of n TICKS (1 .. 6) to come", () -> {
             odds("one tick", of(text), new int[] {1, 1, 1, 3}, 3, 10);
             odds("two ticks", of(text), new int[] {1, 1, 2, 3}, 51, 100);
             odds("two of two", of(text), new int[] {1, 2, 2, 3}, 9, 100);
@@ -211,7 +198,7 @@ public final class ChanceBounds extends Check {
             odds("what was ahead, two ticks", x, new int[] {2, 2, 2, 3}, 3, 10);
             odds("on one another", of("S4I0F00W01W10"), new int[] {2, 1, 2, 3}, 3, 10);
         });
-        sentence("Promise 21, ODDS", "INPUT 0 is 1, else 0, INPUT 1 is 0", () -> {
+        sentence("Promise 21, ODDS", "else 0, by itself, INPUT 1 is 0", () -> {
             odds("input 1", of("S2I1W00"), new int[] {1, 1, 6, 10}, 0, 1);
             odds("not more than 1", of("S4K1I0<01W12"), new int[] {3, 1, 6, 10}, 0, 1);
         });
@@ -256,7 +243,7 @@ public final class ChanceBounds extends Check {
             due("once", of(COUNTER).runs(1), 3 + 0 + 1 + 1);
             due("30 times", of(COUNTER).runs(30), 90 + 435 + 30 + 465);
         });
-        sentence("Promise 23, RUNS", "64 bits, wrapping; of its upper 31 bits", () -> {
+        sentence("Promise 23, RUNS", "64 bits, wrapping", () -> {
             long[] seeds = {0, 1, -1, 77, Long.MIN_VALUE, Long.MAX_VALUE, 1L << 33, (1L << 33) - 1, -(1L << 33)};
             for (long from : seeds) {
                 BigInteger x = BigInteger.valueOf(from).mod(BigInteger.ONE.shiftLeft(64));
@@ -328,6 +315,17 @@ public final class ChanceBounds extends Check {
             due("again(0)", x.again(0), 0);
         });
         sentence("Promise 25", "They are as they were kept: THE TICK", ChanceBounds::again);
+        sentence("Promise 25, SLOTS", "keep EQUATIONS, what is kept of them, values, THE TICK", () -> {
+            ClockedFlows x = of("S1I0");
+            x.keep(0);
+            x.see(1, 0, 5, 1);
+            x.seed(77);
+            x.write('S');
+            x.again(0);
+            due("SEEN is not kept", x.about(8), 1);
+            due("THE TEXT is not kept", x.about(9), 5);
+            due("THE SEED is not kept", x.seed(0), 77);
+        });
         sentence("Promise 25, SLOTS", "no DOINGS when one goes on", () -> {
             ClockedFlows x = ticked(COUNTER, 0, 0);
             x.keep(0);

@@ -275,7 +275,7 @@ public final class ClockBounds extends Check {
             raw("S5I0P0W00N10M023", 4);
             raw("S5M123P4K0K0I0", 0);
         });
-        sentence("Promise 6, RAW", "the first EQUATION; NONE", () -> {
+        sentence("Promise 6, RAW", "RAW is the first EQUATION", () -> {
             raw("S5I0P0+01P2P1", 3);
             raw("S8P1P2P3P4P5P6P7I0", 0);
             raw("S6I0P0+01-01<01?011", NONE);

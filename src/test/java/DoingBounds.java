@@ -64,11 +64,13 @@ public final class DoingBounds extends Check {
                 values("by " + a, ticked("S4I0K3K4?012", a, 0), a, 3, 4, a == 0 ? 4 : 3);
             }
         });
-        sentence("Promise 10, KINDS 0, 1", "INPUT i (0, 1); v always", () -> {
-            ClockedFlows x = ticked("S4I0I1K0K9", 0, 99);
-            values("at first", x, 0, 99, 0, 9);
-            x.tick(99, 0);
-            values("then", x, 99, 0, 0, 9);
+        sentence("Promise 10, KIND 0", "INPUT i (0, 1)", () -> {
+            values("the least and the most", ticked("S2I0I1", 0, 99), 0, 99);
+            values("the most and the least", ticked("S2I0I1", 99, 0), 99, 0);
+        });
+        sentence("Promise 10, KIND 1", "v always", () -> {
+            values("at first", ticked("S2K0K9", 1, 1), 0, 9);
+            values("then", ticked("S2K0K9", 1, 1, 2, 2), 0, 9);
         });
     }
 
@@ -119,18 +121,29 @@ public final class DoingBounds extends Check {
     }
 
     static void clocks() {
-        sentence("Promise 10, KINDS 9, 10, 11", "a, when c is not 0; a, when c is 0; else b", () -> {
+        sentence("Promise 10, KIND 9", "a, when c is not 0", () -> {
             for (int c : new int[] {0, 1, 99}) {
-                ClockedFlows x = ticked("S7I0I1W10N10M023K7K8", c, 42);
-                values("by " + c, x, c, 42, c == 0 ? NONE : 42, c == 0 ? 42 : NONE, 42, 7, 8);
-                ClockedFlows two = ticked("S4I0K7K8M012", c, 0);
-                values("by " + c, two, c, c == 0 ? NONE : 7, c == 0 ? 8 : NONE, c == 0 ? 8 : 7);
+                values("by " + c, ticked("S3I0I1W10", c, 42), c, 42, c == 0 ? NONE : 42);
+            }
+        });
+        sentence("Promise 10, KIND 10", "a, when c is 0", () -> {
+            for (int c : new int[] {0, 1, 99}) {
+                values("by " + c, ticked("S3I0I1N10", c, 42), c, 42, c == 0 ? 42 : NONE);
+            }
+        });
+        sentence("Promise 10, KIND 11", "a, when c is not 0, else b", () -> {
+            for (int c : new int[] {0, 1, 99}) {
+                ClockedFlows x = ticked("S4I0K7K8M012", c, 0);
+                values("by " + c, x, c, c == 0 ? NONE : 7, c == 0 ? 8 : NONE, c == 0 ? 8 : 7);
             }
         });
         sentence("Promise 10, TICK", "the STREAM c on which it is is THERE (by the CLOCK it is on)", () -> {
             String text = "S4I0N00N11W11";
             values("c is there, and is 0", ticked(text, 0, 0), 0, 0, 0, NONE);
             values("c is not there", ticked(text, 1, 0), 1, NONE, NONE, NONE);
+            String two = "S5I0W00K7K8M123";
+            values("c is there, and is not 0", ticked(two, 5, 0), 5, 5, 7, NONE, 7);
+            values("c is not there: neither by c nor by not c", ticked(two, 0, 0), 0, NONE, NONE, NONE, NONE);
             due("one is there", ticked(ClockBounds.DEEPEST, 0, 0).about(6), 1);
             due("two are there", ticked(ClockBounds.DEEPEST, 1, 0).about(6), 3);
         });
@@ -180,7 +193,7 @@ public final class DoingBounds extends Check {
             values("at first", x, 9, 5, NIL, 5);
             due("about(5)", x.about(5), 1);
         });
-        sentence("Promise 11, DOINGS", "TICKS, AFRESH, TOLD are a row", () -> {
+        sentence("Promise 11, DOINGS", "DOINGS (TICKS, AFRESH", () -> {
             ClockedFlows x = of(COUNTER);
             x.tick(0, 0);
             due("a tick", x.about(7), 1);

@@ -84,10 +84,17 @@ public final class TextBounds extends Check {
             due("about(9)", x.about(9), 0);
             due("fault()", x.fault(), 0);
             append(x, "S1");
-            due("what stood behind is gone: fault()", x.fault(), 2);
             due("of 2", x.wipe(), 2);
         });
         sentence("Promise 3", "THE TEXT is empty", () -> {
+            for (int length = 0; length < COUNTER.length(); length++) {
+                ClockedFlows x = written(COUNTER);
+                rewrite(x, COUNTER.substring(0, length));
+                due("what stood behind " + length + " is gone: fault()", x.fault(), length);
+                due("and program()", x.program(), LATE);
+            }
+        });
+        sentence("Promise 3", "Nothing is promised beyond the answers and state changes described above", () -> {
             ClockedFlows x = ticked(COUNTER, 0, 0);
             x.wipe();
             due("the program stays: about(0)", x.about(0), 3);
@@ -141,7 +148,7 @@ public final class TextBounds extends Check {
                 due("letters behind " + text, takenBehind(text), "");
             }
         });
-        sentence("Promise 4, EQUATION", "Ii .. Mcab", () -> {
+        sentence("Promise 4, EQUATION", "Ii (KIND 0)", () -> {
             due("kinds", takenBehind("S1"), "+-<?AFIKMNPW");
             due("kinds of the last", takenBehind("S8" + "K0".repeat(7)), "+-<?AFIKMNPW");
         });
