@@ -328,7 +328,7 @@ public final class ClockedFlows {
         if (slot < 0 || slot >= MOST_SLOTS) {
             return UNKNOWN;
         }
-        slots[slot].become(now);
+        carry(now, slots[slot]);
         slotKept[slot] = true;
         return now.ticks;
     }
@@ -340,7 +340,7 @@ public final class ClockedFlows {
         if (!slotKept[slot]) {
             return LATE;
         }
-        now.become(slots[slot]);
+        carry(slots[slot], now);
         doings.forget();
         sense.study(now);
         return now.ticks;
@@ -460,6 +460,19 @@ public final class ClockedFlows {
         return product;
     }
 
+    /** Flows that stand in a row of objects go through here, since such a row may hold null. */
+    private static void carry(Flow from, Flow to) {
+        if (from != null && to != null) {
+            to.become(from);
+        }
+    }
+
+    /** The stream that a clock other than BASE is on, and so an index of any row of streams. */
+    private static int streamOf(int clock) {
+        int on = clock / 10;
+        return on < 0 || on >= MOST_STREAMS ? 0 : on;
+    }
+
     private static boolean isValue(int v) {
         return v >= 0 && v <= TOP_VALUE;
     }
@@ -510,9 +523,10 @@ public final class ClockedFlows {
             if (length < 2 || letterAt(1) < '1' || letterAt(1) > '0' + MOST_STREAMS) {
                 return 1;
             }
-            flow.count = letterAt(1) - '0';
+            int count = letterAt(1) - '0';
+            flow.count = count;
             int place = 2;
-            for (int s = 0; s < flow.count; s++) {
+            for (int s = 0; s < count; s++) {
                 int wrong = readEquation(flow, s, place);
                 if (wrong != NONE) {
                     return wrong;
@@ -669,7 +683,7 @@ public final class ClockedFlows {
             if (clock < 0) {
                 return true;
             }
-            int condition = valueOf(clock / 10);
+            int condition = valueOf(streamOf(clock));
             if (condition == NONE || condition == NIL) {
                 return false;
             }
@@ -758,7 +772,7 @@ public final class ClockedFlows {
         int clockAt(int stream, int d) {
             int at = stream;
             for (int i = depth[stream] - 1; i > d && settled[at] >= 0; i--) {
-                at = settled[at] / 10;
+                at = streamOf(settled[at]);
             }
             return settled[at];
         }
@@ -833,7 +847,7 @@ public final class ClockedFlows {
             for (int s = 0; s < count; s++) {
                 int at = group[s];
                 for (int i = 0; i < MOST_STREAMS && bound[at] >= 0; i++) {
-                    at = group[bound[at] / 10];
+                    at = group[streamOf(bound[at])];
                 }
                 if (bound[at] >= 0) {
                     return false;
@@ -849,7 +863,7 @@ public final class ClockedFlows {
             for (int s = 0; s < count; s++) {
                 int steps = 0;
                 for (int at = s; steps < MOST_STREAMS && settled[at] >= 0; steps++) {
-                    at = settled[at] / 10;
+                    at = streamOf(settled[at]);
                 }
                 depth[s] = steps;
             }
@@ -882,7 +896,7 @@ public final class ClockedFlows {
         /** Of its clock's streams the topmost is enough: that one waits for those below it. */
         private int waits(Flow flow, int s) {
             int kind = flow.kindOf(s);
-            int bits = settled[s] < 0 ? 0 : 1 << (settled[s] / 10);
+            int bits = settled[s] < 0 ? 0 : 1 << streamOf(settled[s]);
             if (kind == FOLLOW || kind == PAST) {
                 return bits;
             }
@@ -966,7 +980,7 @@ public final class ClockedFlows {
         }
 
         void remember(Flow flow) {
-            row[(oldest + count) % MOST_DOINGS].become(flow);
+            carry(flow, row[(oldest + count) % MOST_DOINGS]);
             if (count < MOST_DOINGS) {
                 count++;
             } else {
@@ -977,7 +991,7 @@ public final class ClockedFlows {
         void takeBack(Flow flow) {
             if (count > 0) {
                 count--;
-                flow.become(row[(oldest + count) % MOST_DOINGS]);
+                carry(row[(oldest + count) % MOST_DOINGS], flow);
             }
         }
     }

@@ -88,6 +88,18 @@ public final class LanguageTest {
         for (char sign : source.toCharArray()) want(sign < 128, "plain signs");
     }
 
+    /** Rule 7 and rule 12, as far as they are kept by going through one place. */
+    static void guards(String source) {
+        String bare = bare(source);
+        want(!bare.contains("] / 10"), "the stream of a clock is looked at before it is an index: streamOf");
+        want(!bare.contains("].become(") && !bare.matches("(?s).*become\\(\\w+\\[.*"), "a flow of a row is looked at for null: carry");
+        for (String line : bare.split("\n")) {
+            boolean made = line.matches(".*\\bnew\\b.*");
+            boolean once = line.matches(" +(private )?final .* = new .*;") || line.matches(" +\\w+\\[i\\] = new Flow\\(\\);");
+            want(!made || once, "rows are made in constructors: " + line.trim());
+        }
+    }
+
     static void lengths(String source) {
         String name = "";
         int from = -1;
@@ -108,6 +120,7 @@ public final class LanguageTest {
         face();
         fields();
         words(source);
+        guards(source);
         lengths(source);
         System.out.println(wrong == 0 ? "the rules that can be seen are kept" : wrong + " rules are broken");
         if (wrong != 0) System.exit(1);
