@@ -1,7 +1,10 @@
 import java.util.ArrayList;
 import java.util.List;
 
-/** Every program of one stream and of two, and what is worked by it, against the model of ModelTest. */
+/**
+ * Every program of one stream and of two, and what is worked by it, against the model of ModelTest
+ * (java EveryTest 3: those of three streams too, some half a minute).
+ */
 public final class EveryTest {
     static final int[][] INPUTS = {{0, 3}, {1, 0}, {5, 2}, {0, 0}, {2, 1}};
     private static int programs = 0;
@@ -75,15 +78,20 @@ public final class EveryTest {
         same(text, "later(0, 3, 1, 0)", x.later(0, 3, 1, 0), m.later(0, 3, 1, 0));
     }
 
-    public static void main(String[] args) {
-        for (String one : equations(1)) {
-            check("S1" + one);
+    static void checkAll(String begun, List<String> equations, int left) {
+        if (left == 0) {
+            check(begun);
+            return;
         }
-        List<String> all = equations(2);
-        for (String one : all) {
-            for (String other : all) {
-                check("S2" + one + other);
-            }
+        for (String one : equations) {
+            checkAll(begun + one, equations, left - 1);
+        }
+    }
+
+    public static void main(String[] args) {
+        int most = args.length > 0 ? Integer.parseInt(args[0]) : 2;
+        for (int n = 1; n <= most; n++) {
+            checkAll("S" + n, equations(n), n);
         }
         System.out.println(wrong == 0 ? programs + " programs answer as the model, " + sound + " of them sound" : wrong + " answers are not the model's");
         if (wrong != 0 || sound == 0) {
